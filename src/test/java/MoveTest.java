@@ -8,6 +8,7 @@ public final class MoveTest {
         wrongNumbers(due);
         moving(due);
         intoItself(due);
+        asDeepAsCanBe(due);
         order(due);
         whatAMoveKeeps(due);
         due.end();
@@ -80,6 +81,22 @@ public final class MoveTest {
         due.is("it is there", x.find(11, 5), 4);
         due.is("and not the other way", x.move(6, 5, 1), REFUSED);
         due.is("changes", x.count(3), 13);
+    }
+
+    private static void asDeepAsCanBe(Due due) {
+        ShareServer x = new ShareServer();
+        x.open(0, 0, 0, Due.NEW_FOLDER, 0);
+        for (int depth = 1; depth <= 23; depth++) {
+            due.is("deeper", Due.opened(x, 0, depth, 0, Due.NEW_FOLDER, 0), depth + 1);
+            due.is("closed", x.close(depth + 1), 1);
+        }
+        due.is("the outermost into the innermost", x.move(1, 24, 5), REFUSED);
+        due.is("the innermost", Due.opened(x, 0, 23, 0, Due.ALL | Due.FOLDER, 0), 25);
+        due.is("into its own directory", x.move(25, 23, 1), 0);
+        due.is("into the outermost", x.move(25, 1, 1), 0);
+        due.is("out of it", x.move(25, 0, 1), 0);
+        due.is("the outermost goes in", x.move(1, 24, 5), 0);
+        due.is("the root has one", x.node(0, 6), 1);
     }
 
     private static void order(Due due) {
