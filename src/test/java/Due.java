@@ -15,16 +15,26 @@ final class Due {
     static final int REMOVES = ShareServer.REMOVES;
     static final int NEW_FILE = ALL | MAKE;
     static final int NEW_FOLDER = ALL | MAKE | FOLDER;
-    /** Numbers that are out of most ranges, the farthest ones among them. */
-    static final int[] WILD = {Integer.MIN_VALUE, Integer.MIN_VALUE + 1, -1000, -33, -32, -2, -1, 1025, Integer.MAX_VALUE - 31,
-        Integer.MAX_VALUE - 1, Integer.MAX_VALUE};
+    static final int OLD_FOLDER = ALL | FOLDER;
+    /**
+     * Numbers that are out of every range, in every object with fewer than 1025 requests or handles: the ends of the ints, where
+     * sums and differences wrap around, and numbers that a byte, a char or a short would cut down to one in range.
+     */
+    static final int[] WILD = {Integer.MIN_VALUE, Integer.MIN_VALUE + 1, -65536, -1000, -256, -33, -32, -2, -1, 1025, 65536,
+        65537, Integer.MAX_VALUE - 31, Integer.MAX_VALUE - 1, Integer.MAX_VALUE};
 
+    private String sentence = "";
     private int wrong;
+
+    /** Where in the document the next answers are promised, and its words [with what is left out or added]; told with wrong answers. */
+    void sentence(String where, String words) {
+        sentence = where + ", '" + words + "': ";
+    }
 
     void is(String what, long got, long want) {
         if (got != want) {
             wrong++;
-            System.out.println(what + " answered " + got + ", due is " + want);
+            System.out.println(sentence + what + " answered " + got + ", due is " + want);
         }
     }
 

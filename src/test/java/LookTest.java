@@ -5,6 +5,14 @@ public final class LookTest {
 
     public static void main(String[] args) {
         Due due = new Due();
+        finding(due, someNodes());
+        nodes(due, someNodes());
+        handles(due, someNodes());
+        counts(due);
+        due.end();
+    }
+
+    private static ShareServer someNodes() {
         ShareServer x = new ShareServer();
         x.open(1, 0, 3, Due.NEW_FOLDER, 2);
         x.open(2, 1, 15, Due.READ | Due.DELETE | Due.SHARE_ALL | Due.MAKE, 1);
@@ -14,11 +22,7 @@ public final class LookTest {
         x.lock(2, 0, 4, false);
         x.lock(3, 0, 4, false);
         x.doom(2, true);
-        finding(due, x);
-        nodes(due, x);
-        handles(due, x);
-        counts(due);
-        due.end();
+        return x;
     }
 
     private static void finding(Due due, ShareServer x) {

@@ -84,6 +84,18 @@ final class Model {
         return locks.computeIfAbsent(node, n -> new ArrayList<>());
     }
 
+    /** The first cell and the length of each lock of a handle, for tests that look for one to unlock. */
+    List<int[]> rangesOf(int handle) {
+        List<int[]> ranges = new ArrayList<>();
+        Handle h = handles.get(handle);
+        for (Lock l : h == null ? List.<Lock>of() : locksOf(h.node)) {
+            if (l.handle() == handle) {
+                ranges.add(new int[] {l.first(), l.last() - l.first() + 1});
+            }
+        }
+        return ranges;
+    }
+
     int open(int client, int directory, int name, int mode, int wish) {
         boolean numbers = client >= 0 && client <= 3 && directory >= 0 && directory <= 24 && name >= 0 && name <= 15
             && mode >= 0 && mode <= 1023 && wish >= 0 && wish <= 2;
