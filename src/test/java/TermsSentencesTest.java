@@ -322,6 +322,21 @@ public final class TermsSentencesTest {
         due.is("none", x.node(1, 5), 0);
         due.is("opened again", Due.opened(x, 0, 0, 0, Due.ALL, 0), 4);
         due.is("all cells are free", x.lock(4, 0, 32, true), 1);
+        ShareServer y = new ShareServer();
+        for (int i = 1; i <= 4; i++) {
+            due.is("opened", Due.opened(y, 0, 0, 0, Due.NEW_FILE, 0), i);
+        }
+        due.is("of the first", y.lock(1, 0, 1, true), 1);
+        due.is("of the second", y.lock(2, 1, 1, true), 2);
+        due.is("of the third", y.lock(3, 2, 1, true), 3);
+        due.is("closed, one without locks", y.close(4), 3);
+        due.is("three are left", y.node(1, 5), 3);
+        due.is("closed, the one with the last", y.close(3), 2);
+        due.is("two are left", y.node(1, 5), 2);
+        due.is("the second's", y.read(1, 1), LOCKED);
+        due.is("the first's", y.read(2, 0), LOCKED);
+        due.is("closed, the one with the second", y.close(2), 1);
+        due.is("the first's", y.unlock(1, 0, 1), 0);
     }
 
     private static void closingDoomsAFile(Due due) {

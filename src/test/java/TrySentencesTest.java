@@ -33,6 +33,7 @@ public final class TrySentencesTest {
         againEachJustOnce(due);
         againWhenGrant3IsClosed(due);
         againWhenGrant3IsGivenUp(due);
+        againOnlyThen(due);
         againAsTheLastThing(due);
         againWithNoneWaiting(due);
         due.end();
@@ -448,6 +449,38 @@ public final class TrySentencesTest {
             due.is("given up", x.giveUp(2), wish == 1 ? 0 : 1);
             due.is("after giving up GRANT " + wish, x.outcome(2), wish == 3 ? NOWHERE : WAITING);
         }
+    }
+
+    private static void againOnlyThen(Due due) {
+        due.sentence("Terms, TRIED AGAIN", "when a handle that had the GRANT 3 is closed or its GRANT is given up [and by no other call]");
+        ShareServer x = new ShareServer();
+        due.is("alone", Due.opened(x, 0, 0, 0, Due.NEW_FILE, 2), 1);
+        due.is("waits", Due.opened(x, 1, 0, 0, Due.ALL, 0), WAITING);
+        due.is("waits", Due.opened(x, 2, 0, 0, Due.ALL, 0), WAITING);
+        due.is("moves away, so that a try would tell", x.move(1, 0, 9), 0);
+        due.is("after the move", x.outcome(2), WAITING);
+        due.is("taken back", x.cancel(3), 0);
+        due.is("after a cancel", x.outcome(2), WAITING);
+        due.is("another request that waits", Due.opened(x, 2, 0, 9, Due.ALL, 0), WAITING);
+        due.is("after it", x.outcome(2), WAITING);
+        due.is("another handle", Due.opened(x, 0, 0, 1, Due.NEW_FILE, 2), 2);
+        due.is("after an open", x.outcome(2), WAITING);
+        due.is("doom", x.doom(1, true), 0);
+        due.is("no doom", x.doom(1, false), 0);
+        due.is("read", x.read(1, 0), 0);
+        due.is("write", x.write(1, 0, 1), 0);
+        due.is("lock", x.lock(1, 0, 1, true), 1);
+        due.is("unlock", x.unlock(1, 0, 1), 0);
+        due.is("sync", x.sync(), 4);
+        due.is("after all these", x.outcome(2), WAITING);
+        due.is("GRANT 2 given up", x.giveUp(2), 1);
+        due.is("GRANT 1 given up", x.giveUp(2), 0);
+        due.is("doom", x.doom(2, true), 0);
+        due.is("a node is removed", x.close(2), 1);
+        due.is("after all these", x.outcome(2), WAITING);
+        due.is("GRANT 3 given up", x.giveUp(1), 1);
+        due.is("after that", x.outcome(2), NOWHERE);
+        due.is("after that", x.outcome(4), 3);
     }
 
     private static void againAsTheLastThing(Due due) {
