@@ -776,8 +776,10 @@ public final class ShareServer {
         }
 
         void add(Change change) {
-            unsafe[unsafeCount] = change;
-            unsafeCount++;
+            if (unsafeCount < unsafe.length) {
+                unsafe[unsafeCount] = change;
+                unsafeCount++;
+            }
             if (unsafeCount >= unsafe.length) {
                 makeAllDurable();
             }
